@@ -1,0 +1,88 @@
+import java.io.IOException;
+import java.lang.reflect.Constructor;
+import java.lang.reflect.Field;
+import java.lang.reflect.Method;
+import java.lang.reflect.Modifier;
+import java.nio.file.Files;
+import java.nio.file.Path;
+import java.util.Set;
+import java.util.TreeSet;
+import java.util.regex.Pattern;
+
+/** The public face, and the rules of LANGUAGE.md that can be seen in the text. */
+public final class FaceTest {
+    private static final Set<String> METHODS = Set.of(
+        "asm(int,int,int)", "wipe()", "link()", "fault()", "step()", "run(int)", "restart()",
+        "collectMinor()", "collectMajor()", "many(int)", "pile(int,int)", "local(int,int)",
+        "object(int,int)", "slot(int,int,int)", "outSize()", "out(int,int)");
+
+    public static void main(String[] args) throws IOException {
+        members();
+        constants();
+        text();
+        Check.end("FaceTest");
+    }
+
+    private static void members() {
+        Set<String> open = new TreeSet<>();
+        Set<String> publicNames = new TreeSet<>();
+        for (Method method : ProtoMachine.class.getDeclaredMethods()) {
+            if (Modifier.isPublic(method.getModifiers())) {
+                open.add(method.getName() + parameters(method.getParameterTypes()));
+                publicNames.add(method.getName());
+                Check.holds(method + " answers int", method.getReturnType() == int.class);
+            } else if (!method.isSynthetic()) {
+                Check.holds(method + " is private", Modifier.isPrivate(method.getModifiers()));
+            }
+        }
+        Check.holds("the methods are " + open, open.equals(METHODS));
+        for (Method method : ProtoMachine.class.getDeclaredMethods()) {
+            Check.holds(method + " bears a name of its own",
+                Modifier.isPublic(method.getModifiers()) || !publicNames.contains(method.getName()));
+        }
+        for (Class<?> inside : ProtoMachine.class.getDeclaredClasses()) {
+            Check.holds(inside + " is static", Modifier.isStatic(inside.getModifiers()));
+            Check.holds(inside + " has some twenty fields", inside.getDeclaredFields().length <= 20);
+        }
+        Check.holds("the class is final", Modifier.isFinal(ProtoMachine.class.getModifiers()));
+        Constructor<?>[] makers = ProtoMachine.class.getDeclaredConstructors();
+        Check.same("constructors", 1, makers.length);
+        Check.holds("constructor's parameters", parameters(makers[0].getParameterTypes()).equals("(int,int)"));
+    }
+
+    private static String parameters(Class<?>[] types) {
+        StringBuilder all = new StringBuilder("(");
+        for (int i = 0; i < types.length; i++) {
+            all.append(i == 0 ? "" : ",").append(types[i].getName());
+        }
+        return all.append(")").toString();
+    }
+
+    private static void constants() {
+        Check.same("BAD", -1, ProtoMachine.BAD);
+        Check.same("FULL", -2, ProtoMachine.FULL);
+        Check.same("NO_ROOM", -3, ProtoMachine.NO_ROOM);
+        Set<String> open = new TreeSet<>();
+        for (Field field : ProtoMachine.class.getDeclaredFields()) {
+            if (!Modifier.isPrivate(field.getModifiers())) {
+                open.add(field.getName());
+            }
+            Check.holds(field + ", if static, is final",
+                !Modifier.isStatic(field.getModifiers()) || Modifier.isFinal(field.getModifiers()));
+        }
+        Check.holds("the fields are " + open, open.equals(Set.of("BAD", "FULL", "NO_ROOM")));
+    }
+
+    private static void text() throws IOException {
+        String text = Files.readString(Path.of("src/main/java/ProtoMachine.java"));
+        String code = text.replaceAll("(?s)/\\*.*?\\*/", " ").replaceAll("//[^\n]*", " ");
+        for (String word : new String[] {"throw", "try", "catch", "synchronized", "assert", "package", "throws"}) {
+            Check.holds("no " + word, !Pattern.compile("\\b" + word + "\\b").matcher(code).find());
+        }
+        Check.holds("no lambda", !code.contains("->"));
+        Check.holds("no method reference", !code.contains("::"));
+        Check.holds("only Arrays is imported",
+            code.replaceAll("import java\\.util\\.Arrays;", "").indexOf("import") < 0);
+        Check.holds("characters 0 to 255", text.chars().allMatch(c -> c <= 255));
+    }
+}
