@@ -266,7 +266,7 @@ public final class ProtoMachine {
         roots.clear();
         heap.clear();
         output.count = 0;
-        code.forget();
+        code.forgetAll();
         state = RUNNING;
         at = 0;
         steps = 0;
@@ -335,7 +335,7 @@ public final class ProtoMachine {
     private int perform(Word word) {
         switch (word.op) {
             case HALT: return HALTED;
-            case PUSH: return bring(value(KIND_INT, word.a));
+            case PUSH: return bring(pack(KIND_INT, word.a));
             case NIL: return bring(NOTHING);
             case POP: return letGo(1);
             case DUP: return bring(roots.fromAbove(0));
@@ -353,7 +353,7 @@ public final class ProtoMachine {
             case STORE: return store(word.a);
             case GLOBAL: return bring(roots.globalAt(word.a));
             case KEEP: return keep(word.a);
-            case METHOD: return bring(value(KIND_METHOD, code.placeOf(word.a)));
+            case METHOD: return bring(pack(KIND_METHOD, code.placeOf(word.a)));
             case SELF: return bring(roots.top.valueAt(SELF_AT));
             case RETURN: return giveBack();
             case PRINT: return print();
@@ -395,8 +395,8 @@ public final class ProtoMachine {
     }
 
     private int reckon(int op) {
-        int first = number(roots.fromAbove(1));
-        int second = number(roots.fromAbove(0));
+        int first = numberOf(roots.fromAbove(1));
+        int second = numberOf(roots.fromAbove(0));
         if (second == 0 && (op == DIV || op == REM)) {
             return BY_ZERO;
         }
@@ -404,7 +404,7 @@ public final class ProtoMachine {
         if (result < LEAST_INT || result > MOST_INT) {
             return INT_END;
         }
-        return exchange(2, value(KIND_INT, (int) result));
+        return exchange(2, pack(KIND_INT, (int) result));
     }
 
     private static long arithmetic(int op, long first, long second) {
@@ -455,7 +455,7 @@ public final class ProtoMachine {
             return ROOM_END;
         }
         made.parent = heap.thingOf(roots.fromAbove(0));
-        return exchange(1, value(KIND_OBJECT, made.index));
+        return exchange(1, pack(KIND_OBJECT, made.index));
     }
 
     private int makeCopy() {
@@ -468,7 +468,7 @@ public final class ProtoMachine {
             return ROOM_END;
         }
         made.copy(model);
-        return exchange(1, value(KIND_OBJECT, made.index));
+        return exchange(1, pack(KIND_OBJECT, made.index));
     }
 
     private int get(Word word) {
@@ -545,7 +545,7 @@ public final class ProtoMachine {
             return NOT_FOUND;
         }
         long found = holder.valueOf(word.a);
-        int end = kind(found) == KIND_METHOD ? call(receiver, number(found), word.b) : answer(found, word.b);
+        int end = kindOf(found) == KIND_METHOD ? call(receiver, numberOf(found), word.b) : answer(found, word.b);
         if (end == RUNNING) {
             remember(word, receiver);
         }
@@ -572,7 +572,7 @@ public final class ProtoMachine {
     /** The first object of a value's chain. */
     private Thing chainOf(long value) {
         Thing thing = heap.thingOf(value);
-        return thing == null ? roots.protoOf(kind(value)) : thing;
+        return thing == null ? roots.protoOf(kindOf(value)) : thing;
     }
 
     private static Thing finder(Thing first, int name) {
@@ -586,13 +586,12 @@ public final class ProtoMachine {
 
     private void remember(Word word, long taken) {
         Thing thing = heap.thingOf(taken);
-        Thing above = thing == null ? roots.protoOf(kind(taken)) : thing.parent;
+        Thing above = thing == null ? roots.protoOf(kindOf(taken)) : thing.parent;
         Memory memory = word.memory();
-        if (memory.isOf(kind(taken), above, thing) && isUnchanged(above, memory.step)) {
+        if (memory.isOf(kindOf(taken), above, thing) && isUnchanged(above, memory.step)) {
             hits++;
         }
-        memory.take(kind(taken), above, thing);
-        memory.step = steps + 1;
+        memory.note(steps + 1, kindOf(taken), above, thing);
         siteSteps++;
     }
 
@@ -614,38 +613,38 @@ public final class ProtoMachine {
     }
 
     /** A value in one number, so that two values are the SAME when their numbers are. */
-    private static long value(int kind, int number) {
+    private static long pack(int kind, int number) {
         return (long) kind << 32 | number & 0xFFFFFFFFL;
     }
 
     private static long valueOfThing(Thing thing) {
-        return thing == null ? NOTHING : value(KIND_OBJECT, thing.index);
+        return thing == null ? NOTHING : pack(KIND_OBJECT, thing.index);
     }
 
     private static long truth(boolean is) {
-        return value(KIND_INT, is ? 1 : 0);
+        return pack(KIND_INT, is ? 1 : 0);
     }
 
-    private static int kind(long value) {
+    private static int kindOf(long value) {
         return (int) (value >>> 32);
     }
 
-    private static int number(long value) {
+    private static int numberOf(long value) {
         return (int) value;
     }
 
     private static boolean isFalse(long value) {
-        return value == NOTHING || value == value(KIND_INT, 0);
+        return value == NOTHING || value == pack(KIND_INT, 0);
     }
 
     private static boolean isAmong(long value, int kinds) {
-        return (kinds >> kind(value) & 1) != 0;
+        return (kinds >> kindOf(value) & 1) != 0;
     }
 
     private static int told(long outward, int what) {
         switch (what) {
-            case 0: return kind(outward);
-            case 1: return number(outward);
+            case 0: return kindOf(outward);
+            case 1: return numberOf(outward);
             default: return BAD;
         }
     }
@@ -797,12 +796,13 @@ public final class ProtoMachine {
             return thing == null || hasNamesOf(thing);
         }
 
-        void take(int takenKind, Thing takenAbove, Thing thing) {
+        void note(int takenStep, int takenKind, Thing takenAbove, Thing thing) {
+            step = takenStep;
             kind = takenKind;
             above = serialOf(takenAbove);
-            count = thing == null ? 0 : thing.count;
-            for (int i = 0; i < count; i++) {
-                names[i] = thing.names[i];
+            if (thing != null) {
+                count = thing.count;
+                System.arraycopy(thing.names, 0, names, 0, count);
             }
         }
 
@@ -853,7 +853,7 @@ public final class ProtoMachine {
             return label >= 0 && label < LABELS ? places[label] : size;
         }
 
-        void forget() {
+        void forgetAll() {
             for (int i = 0; i < size; i++) {
                 wordAt(i).forget();
             }
@@ -919,7 +919,7 @@ public final class ProtoMachine {
         int base;
         int back;
         private int count;
-        private final long[] values = new long[LOCALS + 1];
+        final long[] values = new long[LOCALS + 1];
 
         Frame(Frame caller) {
             below = caller;
@@ -951,9 +951,9 @@ public final class ProtoMachine {
         int height;
         int frames;
         Frame top;
-        private final long[] values = new long[MOST_VALUES];
-        private final long[] globals = new long[GLOBALS];
-        private final Thing[] protos = new Thing[KIND_METHOD + 1];
+        final long[] values = new long[MOST_VALUES];
+        final long[] globals = new long[GLOBALS];
+        final Thing[] protos = new Thing[KIND_METHOD + 1];
         private final Frame first;
 
         Roots() {
@@ -1059,6 +1059,7 @@ public final class ProtoMachine {
         boolean live;
         boolean old;
         boolean marked;
+        // The next one of the spare, or of those to be looked into: none is ever both, for nothing holds a spare one.
         Thing waiting;
 
         Thing(int place) {
@@ -1088,15 +1089,6 @@ public final class ProtoMachine {
             count = model.count;
             System.arraycopy(model.names, 0, names, 0, count);
             System.arraycopy(model.values, 0, values, 0, count);
-        }
-
-        void removeAt(int k) {
-            if (k < 0 || k >= count) {
-                return;
-            }
-            count--;
-            System.arraycopy(names, k + 1, names, k, count - k);
-            System.arraycopy(values, k + 1, values, k, count - k);
         }
     }
 
@@ -1146,7 +1138,7 @@ public final class ProtoMachine {
         /** The value as others see it: with an object's serial, not its index here. */
         long outward(long value) {
             Thing thing = thingOf(value);
-            return thing == null ? value : value(KIND_OBJECT, thing.serial);
+            return thing == null ? value : pack(KIND_OBJECT, thing.serial);
         }
 
         /** The object of that serial, unless it is freed or was never made. */
@@ -1188,7 +1180,13 @@ public final class ProtoMachine {
         }
 
         void removeSlot(Thing thing, int k) {
-            thing.removeAt(k);
+            if (k < 0 || k >= thing.count) {
+                return;
+            }
+            thing.count--;
+            int behind = thing.count - k;
+            System.arraycopy(thing.names, k + 1, thing.names, k, behind);
+            System.arraycopy(thing.values, k + 1, thing.values, k, behind);
             admit(thing.old, 0, -1);
         }
 

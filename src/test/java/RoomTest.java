@@ -183,6 +183,12 @@ public final class RoomTest {
         ProtoMachine fits = Check.linked(9, 60, grown(6) + "GLOBAL 0; CLONE; NIL; HALT");
         fits.run(3 + 18 + 2);
         rooms("one that fits is young", fits, 9, 9, 1, 1, 0, 1, 0);
+        ProtoMachine exact = Check.linked(8, 18, grown(6) + "GLOBAL 0; CLONE; NIL; HALT");
+        Check.same("a great room that is just enough", 1, exact.run(100));
+        rooms("just enough", exact, 0, 18, 0, 2, 0, 2, 0);
+        ProtoMachine lacking = Check.linked(8, 17, grown(6) + "GLOBAL 0; CLONE; NIL; HALT");
+        Check.same("one cell is lacking", 8, lacking.run(100));
+        rooms("lacking", lacking, 0, 9, 0, 1, 0, 2, 1);
         ProtoMachine lost = Check.linked(8, 20, grown(6) + "GLOBAL 0; CLONE; POP; GLOBAL 0; CLONE; GLOBAL 0; CLONE");
         lost.run(3 + 18 + 5);
         rooms("a lost copy makes room by MAJOR", lost, 0, 18, 0, 2, 1, 3, 1);

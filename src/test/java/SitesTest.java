@@ -47,6 +47,9 @@ public final class SitesTest {
         hits("a new one of the same shape", 1, "GLOBAL 1", "GLOBAL 0; NEW; DUP; PUSH 1; SET 2");
         hits("names in another order", 0, "GLOBAL 1; PUSH 1; SET 3; GLOBAL 1",
             "GLOBAL 0; NEW; DUP; PUSH 1; SET 3; DUP; PUSH 1; SET 2");
+        hits("another first name", 0, "GLOBAL 1; PUSH 1; SET 3; GLOBAL 1",
+            "GLOBAL 0; NEW; DUP; PUSH 1; SET 4; DUP; PUSH 1; SET 3");
+        hits("another last name", 0, "GLOBAL 1; PUSH 1; SET 3; GLOBAL 1", "GLOBAL 2; PUSH 1; SET 4; GLOBAL 2");
         hits("fewer names", 0, "GLOBAL 1; PUSH 1; SET 3; GLOBAL 1", "GLOBAL 2");
         hits("more names", 0, "GLOBAL 1", "GLOBAL 2; PUSH 1; SET 3; GLOBAL 2");
     }

@@ -82,12 +82,15 @@ public final class StepsTest {
         Check.same("only one", Check.BAD, m.object(2, 0));
         Check.same("nothing was remembered", 0, m.many(7));
         ProtoMachine globals = Check.linked(20, 60, "GLOBAL 4; PRINT; PUSH 1; KEEP 4; PUSH 3; HAS 1; PRINT;"
-            + OBJECT + "DUP; PUSH 1; SET 1; PROTO 1; HALT");
+            + "NIL; HAS 1; PRINT; METHOD 1; HAS 1; PRINT; LABEL 1;"
+            + OBJECT + "DUP; PUSH 1; SET 1; DUP; PROTO 0; DUP; PROTO 1; PROTO 3; HALT");
         globals.run(100);
         globals.restart();
         globals.run(100);
         Check.same("a global is NIL", 0, globals.out(0, 0));
-        Check.same("a PROTO is NIL", 0, globals.out(1, 1));
+        for (int i = 1; i <= 3; i++) {
+            Check.same("PROTO " + i + " is NIL", 0, globals.out(i, 1));
+        }
         ProtoMachine bad = Check.linked(20, 60, "NIL; POP; POP");
         bad.run(10);
         Check.same("steps of a bad one", 2, bad.restart());
