@@ -13,6 +13,7 @@ final class Check {
 
     private static int wrong = 0;
     private static int right = 0;
+    private static String sentence = "";
 
     private Check() {
     }
@@ -23,7 +24,13 @@ final class Check {
             return;
         }
         wrong++;
-        System.out.println(what + ": answered " + got + ", due is " + due);
+        System.out.println(sentence + what + ": answered " + got + ", due is " + due);
+    }
+
+    /** Names the sentence of the document to which the answers from here on belong. */
+    static void of(String section, String words) {
+        sentence = section + " \"" + words + "\": ";
+        holds("it is in the document", Document.quote(section, words));
     }
 
     static void holds(String what, boolean is) {
@@ -96,5 +103,21 @@ final class Check {
 
     static String repeat(String code, int times) {
         return (code + ";").repeat(times);
+    }
+
+    /** Tells many(0), many(1) and so on, as far as they are given. */
+    static void rooms(String of, ProtoMachine m, int... due) {
+        for (int what = 0; what < due.length; what++) {
+            same("many(" + what + ") " + of, due[what], m.many(what));
+        }
+    }
+
+    /** Code of 3 + 3 * slots steps that keeps an object with so many slots in global 0. */
+    static String grown(int slots) {
+        StringBuilder code = new StringBuilder("NIL; NEW; KEEP 0;");
+        for (int name = 0; name < slots; name++) {
+            code.append("GLOBAL 0; PUSH ").append(name).append("; SET ").append(name).append(";");
+        }
+        return code.toString();
     }
 }

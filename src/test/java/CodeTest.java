@@ -5,7 +5,6 @@ public final class CodeTest {
 
     public static void main(String[] args) {
         newObject();
-        sizesOfRooms();
         asm();
         asmEndsWhatRan();
         wipe();
@@ -43,43 +42,6 @@ public final class CodeTest {
         for (int what = 0; what <= 12; what++) {
             Check.same("many(" + what + ") of " + of, 0, m.many(what));
         }
-    }
-
-    /** Fills the nursery with objects that are held until a MINOR comes, then the great room until there is none. */
-    private static void sizesOfRooms() {
-        int[][] rooms = {{8, 8, 16, 16}, {7, 8, 15, 16}, {0, 8, 0, 16}, {-5, 8, -1, 16},
-            {Integer.MIN_VALUE, 8, Integer.MIN_VALUE, 16}, {11, 11, 17, 17}, {200, 200, 4000, 4000},
-            {201, 200, 4001, 4000}, {Integer.MAX_VALUE, 200, Integer.MAX_VALUE, 4000}, {199, 199, 3999, 3999}};
-        for (int[] room : rooms) {
-            ProtoMachine m = Check.linked(room[0], room[2],
-                "NIL; KEEP 0; LABEL 1; NIL; NEW; DUP; GLOBAL 0; SET 0; KEEP 0; JUMP 1");
-            int most = 0;
-            int state = 0;
-            for (int i = 0; i < 20000 && state == 0; i++) {
-                state = m.step();
-                most = Math.max(most, m.many(0));
-            }
-            Check.same("end in rooms of " + room[0] + ", " + room[2], 8, state);
-            Check.same("cells of a nursery of " + room[0], room[1], most);
-            Check.holds("cells of a great room of " + room[2], m.many(1) <= room[3]);
-            Check.holds("a great room of " + room[2] + " was used", m.many(1) > room[3] - room[1]);
-        }
-        exactGreatRoom(15, 16);
-        exactGreatRoom(16, 16);
-        exactGreatRoom(17, 17);
-        exactGreatRoom(40, 40);
-    }
-
-    /** One object that grows by slots: in the end it fills the great room. */
-    private static void exactGreatRoom(int great, int due) {
-        StringBuilder code = new StringBuilder("NIL; NEW; KEEP 0;");
-        for (int name = 0; name < 40; name++) {
-            code.append("GLOBAL 0; PUSH 1; SET ").append(name).append(";");
-        }
-        ProtoMachine m = Check.linked(8, great, code.toString());
-        Check.same("growing in " + great, 8, m.run(20000));
-        Check.same("cells of a great room of " + great, due, m.many(1));
-        Check.same("size of what fills " + great, due, m.object(1, 1));
     }
 
     private static void asm() {

@@ -20,29 +20,23 @@ public final class RoomTest {
         Check.end("RoomTest");
     }
 
-    private static void rooms(String of, ProtoMachine m, int... due) {
-        for (int what = 0; what < due.length; what++) {
-            Check.same("many(" + what + ") " + of, due[what], m.many(what));
-        }
-    }
-
     private static void collectMinor() {
         ProtoMachine m = Check.ran(OBJECT + "DUP; PUSH 1; SET 1;" + OBJECT + "POP");
-        rooms("before", m, 7, 0, 2, 0, 0, 0, 0);
+        Check.rooms("before", m, 7, 0, 2, 0, 0, 0, 0);
         Check.same("collectMinor", 4, m.collectMinor());
-        rooms("after MINOR", m, 0, 4, 0, 1, 1, 1, 0);
+        Check.rooms("after MINOR", m, 0, 4, 0, 1, 1, 1, 0);
         Check.same("held is old", 1, m.object(1, 0));
         Check.same("the other is freed", 2, m.object(2, 0));
         Check.same("its size is gone", Check.BAD, m.object(2, 1));
         Check.same("collectMinor of none", 0, m.collectMinor());
-        rooms("after another", m, 0, 4, 0, 1, 1, 2, 0);
+        Check.rooms("after another", m, 0, 4, 0, 1, 1, 2, 0);
         Check.same("no step by it", 9, m.many(9));
     }
 
     private static void collectMajor() {
         ProtoMachine m = Check.ran(OBJECT + "KEEP 0; GLOBAL 0; PUSH 1; SET 1;" + OBJECT + "POP; NIL; NEW");
         Check.same("young ones are freed, too", 3, m.collectMajor());
-        rooms("after MAJOR", m, 7, 0, 2, 0, 1, 0, 1);
+        Check.rooms("after MAJOR", m, 7, 0, 2, 0, 1, 0, 1);
         Check.same("held stays young", 0, m.object(1, 0));
         ProtoMachine old = Check.linked(60, 200, OBJECT + "DUP; NEW; NIL; HALT");
         old.run(4);
@@ -53,7 +47,7 @@ public final class RoomTest {
         Check.same("they become old", 7, cycle.collectMinor());
         cycle.run(20);
         Check.same("a cycle is freed", 8, cycle.collectMajor());
-        rooms("after the cycle", cycle, 0, 0, 0, 0, 2, 1, 1);
+        Check.rooms("after the cycle", cycle, 0, 0, 0, 0, 2, 1, 1);
         Check.same("parent freed", 2, cycle.object(1, 0));
     }
 
@@ -63,11 +57,11 @@ public final class RoomTest {
         m.run(8);
         Check.same("one of 3 cells and one of 4", 7, m.collectMinor());
         m.run(20);
-        rooms("before MINOR", m, 3, 7, 1, 2, 0, 1, 0);
+        Check.rooms("before MINOR", m, 3, 7, 1, 2, 0, 1, 0);
         Check.same("an old one that is lost still holds", 3, m.collectMinor());
-        rooms("after MINOR", m, 0, 10, 0, 3, 0, 2, 0);
+        Check.rooms("after MINOR", m, 0, 10, 0, 3, 0, 2, 0);
         Check.same("MAJOR frees all", 10, m.collectMajor());
-        rooms("after MAJOR", m, 0, 0, 0, 0, 3, 2, 1);
+        Check.rooms("after MAJOR", m, 0, 0, 0, 0, 3, 2, 1);
         ProtoMachine parent = Check.linked(60, 200, OBJECT + "KEEP 0; GLOBAL 0; NIL; NEW; ADOPT; NIL; KEEP 0; HALT");
         parent.run(3);
         parent.collectMinor();
@@ -123,140 +117,132 @@ public final class RoomTest {
         m.run(4);
         Check.same("two become old", 6, m.collectMinor());
         m.run(2);
-        rooms("lost", m, 0, 6, 0, 2, 0, 1, 0);
+        Check.rooms("lost", m, 0, 6, 0, 2, 0, 1, 0);
         m.run(6);
-        rooms("three young", m, 9, 6, 3, 2, 0, 1, 0);
+        Check.rooms("three young", m, 9, 6, 3, 2, 0, 1, 0);
         Check.same("a fourth", 0, m.run(2));
-        rooms("four", m, 3, 15, 1, 5, 0, 2, 0);
+        Check.rooms("four", m, 3, 15, 1, 5, 0, 2, 0);
         Check.same("room for one cell only", 3, m.collectMinor());
-        rooms("after MAJOR and MINOR", m, 0, 12, 0, 4, 2, 3, 1);
+        Check.rooms("after MAJOR and MINOR", m, 0, 12, 0, 4, 2, 3, 1);
     }
 
     private static void minorWithoutRoom() {
         ProtoMachine m = Check.linked(12, 16, Check.repeat("NIL; NEW", 10));
         Check.same("no room", 8, m.run(100));
-        rooms("no room", m, 12, 12, 4, 4, 0, 1, 1);
+        Check.rooms("no room", m, 12, 12, 4, 4, 0, 1, 1);
         Check.same("word", 17, m.many(10));
         Check.same("values", 9, m.many(11));
         Check.same("collectMinor", ProtoMachine.NO_ROOM, m.collectMinor());
-        rooms("after NO_ROOM", m, 12, 12, 4, 4, 0, 1, 2);
+        Check.rooms("after NO_ROOM", m, 12, 12, 4, 4, 0, 1, 2);
         Check.same("a step", 8, m.step());
-        rooms("after a step that is none", m, 12, 12, 4, 4, 0, 1, 2);
+        Check.rooms("after a step that is none", m, 12, 12, 4, 4, 0, 1, 2);
         Check.same("no serial was used", Check.BAD, m.object(9, 0));
         ProtoMachine partly = Check.linked(12, 16, OBJECT + OBJECT + OBJECT + OBJECT + OBJECT
             + OBJECT + "POP;" + OBJECT + OBJECT + "HALT");
         partly.run(13);
-        rooms("before", partly, 6, 12, 2, 4, 0, 1, 0);
+        Check.rooms("before", partly, 6, 12, 2, 4, 0, 1, 0);
         partly.run(2);
-        rooms("full", partly, 9, 12, 3, 4, 0, 1, 0);
+        Check.rooms("full", partly, 9, 12, 3, 4, 0, 1, 0);
         Check.same("the lost one is freed, and still there is no room", ProtoMachine.NO_ROOM, partly.collectMinor());
-        rooms("but for what room was made", partly, 6, 12, 2, 4, 1, 1, 1);
+        Check.rooms("but for what room was made", partly, 6, 12, 2, 4, 1, 1, 1);
     }
 
     private static void makingInAFullNursery() {
         ProtoMachine m = Check.linked(8, 60, OBJECT + OBJECT + OBJECT);
         m.run(5);
-        rooms("two", m, 6, 0, 2, 0, 0, 0, 0);
+        Check.rooms("two", m, 6, 0, 2, 0, 0, 0, 0);
         m.run(1);
-        rooms("three", m, 3, 6, 1, 2, 0, 1, 0);
+        Check.rooms("three", m, 3, 6, 1, 2, 0, 1, 0);
         ProtoMachine exact = Check.linked(9, 60, OBJECT + OBJECT + OBJECT);
         exact.run(6);
-        rooms("just enough", exact, 9, 0, 3, 0, 0, 0, 0);
-    }
-
-    private static String grown(int slots) {
-        StringBuilder code = new StringBuilder(OBJECT + "KEEP 0;");
-        for (int name = 0; name < slots; name++) {
-            code.append("GLOBAL 0; PUSH ").append(name).append("; SET ").append(name).append(";");
-        }
-        return code.toString();
+        Check.rooms("just enough", exact, 9, 0, 3, 0, 0, 0, 0);
     }
 
     private static void greaterThanTheNursery() {
-        ProtoMachine m = Check.linked(8, 60, grown(6) + "GLOBAL 0; CLONE; NIL; HALT");
+        ProtoMachine m = Check.linked(8, 60, Check.grown(6) + "GLOBAL 0; CLONE; NIL; HALT");
         m.run(3 + 18);
-        rooms("one of nine cells", m, 0, 9, 0, 1, 0, 1, 0);
+        Check.rooms("one of nine cells", m, 0, 9, 0, 1, 0, 1, 0);
         m.run(2);
-        rooms("its copy is old from the beginning", m, 0, 18, 0, 2, 0, 2, 0);
+        Check.rooms("its copy is old from the beginning", m, 0, 18, 0, 2, 0, 2, 0);
         Check.same("old", 1, m.object(2, 0));
         Check.same("never changed", 0, m.object(2, 4));
-        ProtoMachine fits = Check.linked(9, 60, grown(6) + "GLOBAL 0; CLONE; NIL; HALT");
+        ProtoMachine fits = Check.linked(9, 60, Check.grown(6) + "GLOBAL 0; CLONE; NIL; HALT");
         fits.run(3 + 18 + 2);
-        rooms("one that fits is young", fits, 9, 9, 1, 1, 0, 1, 0);
-        ProtoMachine exact = Check.linked(8, 18, grown(6) + "GLOBAL 0; CLONE; NIL; HALT");
+        Check.rooms("one that fits is young", fits, 9, 9, 1, 1, 0, 1, 0);
+        ProtoMachine exact = Check.linked(8, 18, Check.grown(6) + "GLOBAL 0; CLONE; NIL; HALT");
         Check.same("a great room that is just enough", 1, exact.run(100));
-        rooms("just enough", exact, 0, 18, 0, 2, 0, 2, 0);
-        ProtoMachine lacking = Check.linked(8, 17, grown(6) + "GLOBAL 0; CLONE; NIL; HALT");
+        Check.rooms("just enough", exact, 0, 18, 0, 2, 0, 2, 0);
+        ProtoMachine lacking = Check.linked(8, 17, Check.grown(6) + "GLOBAL 0; CLONE; NIL; HALT");
         Check.same("one cell is lacking", 8, lacking.run(100));
-        rooms("lacking", lacking, 0, 9, 0, 1, 0, 2, 1);
-        ProtoMachine lost = Check.linked(8, 20, grown(6) + "GLOBAL 0; CLONE; POP; GLOBAL 0; CLONE; GLOBAL 0; CLONE");
+        Check.rooms("lacking", lacking, 0, 9, 0, 1, 0, 2, 1);
+        ProtoMachine lost = Check.linked(8, 20, Check.grown(6) + "GLOBAL 0; CLONE; POP; GLOBAL 0; CLONE; GLOBAL 0; CLONE");
         lost.run(3 + 18 + 5);
-        rooms("a lost copy makes room by MAJOR", lost, 0, 18, 0, 2, 1, 3, 1);
+        Check.rooms("a lost copy makes room by MAJOR", lost, 0, 18, 0, 2, 1, 3, 1);
         Check.same("no room for a third", 8, lost.run(10));
-        rooms("no room", lost, 0, 18, 0, 2, 1, 4, 2);
+        Check.rooms("no room", lost, 0, 18, 0, 2, 1, 4, 2);
     }
 
     private static void slotOfAYoungOne() {
-        ProtoMachine m = Check.linked(8, 60, grown(5) + OBJECT + "POP; GLOBAL 0; PUSH 1; SET 9; GLOBAL 0; PUSH 2; SET 9");
+        ProtoMachine m = Check.linked(8, 60, Check.grown(5) + OBJECT + "POP; GLOBAL 0; PUSH 1; SET 9; GLOBAL 0; PUSH 2; SET 9");
         m.run(3 + 15);
-        rooms("full", m, 8, 0, 1, 0, 0, 0, 0);
+        Check.rooms("full", m, 8, 0, 1, 0, 0, 0, 0);
         m.run(2);
-        rooms("another", m, 3, 8, 1, 1, 0, 1, 0);
+        Check.rooms("another", m, 3, 8, 1, 1, 0, 1, 0);
         m.run(4);
-        rooms("the slot of an old one", m, 3, 9, 1, 1, 0, 1, 0);
-        ProtoMachine young = Check.linked(8, 60, grown(6));
+        Check.rooms("the slot of an old one", m, 3, 9, 1, 1, 0, 1, 0);
+        ProtoMachine young = Check.linked(8, 60, Check.grown(6));
         young.run(3 + 18);
-        rooms("it became old, and then grew", young, 0, 9, 0, 1, 0, 1, 0);
+        Check.rooms("it became old, and then grew", young, 0, 9, 0, 1, 0, 1, 0);
         Check.same("its step", 21, young.object(1, 4));
-        ProtoMachine same = Check.linked(8, 60, grown(5) + "GLOBAL 0; PUSH 77; SET 0");
+        ProtoMachine same = Check.linked(8, 60, Check.grown(5) + "GLOBAL 0; PUSH 77; SET 0");
         same.run(3 + 15 + 3);
-        rooms("a slot that is there needs no room", same, 8, 0, 1, 0, 0, 0, 0);
-        ProtoMachine tight = Check.linked(16, 16, grown(13) + "GLOBAL 0; PUSH 1; SET 20");
+        Check.rooms("a slot that is there needs no room", same, 8, 0, 1, 0, 0, 0, 0);
+        ProtoMachine tight = Check.linked(16, 16, Check.grown(13) + "GLOBAL 0; PUSH 1; SET 20");
         Check.same("16 cells become old, and there is no more", 8, tight.run(100));
-        rooms("full", tight, 0, 16, 0, 1, 0, 1, 1);
+        Check.rooms("full", tight, 0, 16, 0, 1, 0, 1, 1);
         Check.same("slots", 13, tight.object(1, 2));
         Check.same("values", 2, tight.many(11));
     }
 
     private static void slotOfAnOldOne() {
-        String code = grown(6) + OBJECT + "POP;" + OBJECT + "POP; GLOBAL 0; PUSH 1; SET 30; GLOBAL 0; PUSH 1; SET 31;"
+        String code = Check.grown(6) + OBJECT + "POP;" + OBJECT + "POP; GLOBAL 0; PUSH 1; SET 30; GLOBAL 0; PUSH 1; SET 31;"
             + "GLOBAL 0; PUSH 1; SET 32; GLOBAL 0; PUSH 1; SET 33; GLOBAL 0; PUSH 1; SET 34";
         ProtoMachine m = Check.linked(8, 16, code);
         m.run(3 + 18 + 6);
         m.collectMinor();
-        rooms("lost ones are gone", m, 0, 9, 0, 1, 2, 2, 0);
+        Check.rooms("lost ones are gone", m, 0, 9, 0, 1, 2, 2, 0);
         m.run(15);
-        rooms("grown", m, 0, 14, 0, 1, 2, 2, 0);
-        ProtoMachine lost = Check.linked(8, 16, grown(6) + OBJECT + "NIL; HALT");
+        Check.rooms("grown", m, 0, 14, 0, 1, 2, 2, 0);
+        ProtoMachine lost = Check.linked(8, 16, Check.grown(6) + OBJECT + "NIL; HALT");
         lost.run(3 + 18 + 2);
         Check.same("a second becomes old", 3, lost.collectMinor());
-        rooms("both", lost, 0, 12, 0, 2, 0, 2, 0);
-        ProtoMachine room = Check.linked(8, 16, grown(9) + OBJECT + "POP;"
+        Check.rooms("both", lost, 0, 12, 0, 2, 0, 2, 0);
+        ProtoMachine room = Check.linked(8, 16, Check.grown(9) + OBJECT + "POP;"
             + "GLOBAL 0; PUSH 1; SET 30; GLOBAL 0; PUSH 1; SET 31; GLOBAL 0; PUSH 1; SET 32; GLOBAL 0; PUSH 1; SET 33;"
             + "GLOBAL 0; PUSH 1; SET 34");
         room.run(3 + 27 + 2);
         Check.same("it becomes old", 3, room.collectMinor());
         room.run(1 + 3);
-        rooms("full", room, 0, 16, 0, 2, 0, 2, 0);
+        Check.rooms("full", room, 0, 16, 0, 2, 0, 2, 0);
         room.run(3);
-        rooms("MAJOR frees the lost one", room, 0, 14, 0, 1, 1, 2, 1);
+        Check.rooms("MAJOR frees the lost one", room, 0, 14, 0, 1, 1, 2, 1);
         room.run(6);
-        rooms("full again", room, 0, 16, 0, 1, 1, 2, 1);
+        Check.rooms("full again", room, 0, 16, 0, 1, 1, 2, 1);
         Check.same("none left", 8, room.run(3));
-        rooms("no room", room, 0, 16, 0, 1, 1, 2, 2);
+        Check.rooms("no room", room, 0, 16, 0, 1, 1, 2, 2);
     }
 
     private static void droppingGivesBack() {
-        ProtoMachine m = Check.linked(8, 60, grown(5) + "GLOBAL 0; DROP 2; GLOBAL 0; PUSH 1; SET 9");
+        ProtoMachine m = Check.linked(8, 60, Check.grown(5) + "GLOBAL 0; DROP 2; GLOBAL 0; PUSH 1; SET 9");
         m.run(3 + 15 + 2);
-        rooms("one cell is back", m, 7, 0, 1, 0, 0, 0, 0);
+        Check.rooms("one cell is back", m, 7, 0, 1, 0, 0, 0, 0);
         Check.same("slots", 4, m.object(1, 2));
         Check.same("changed at", 20, m.object(1, 4));
         m.run(3);
-        rooms("and taken again", m, 8, 0, 1, 0, 0, 0, 0);
-        ProtoMachine old = Check.linked(8, 60, grown(6) + "GLOBAL 0; DROP 2");
+        Check.rooms("and taken again", m, 8, 0, 1, 0, 0, 0, 0);
+        ProtoMachine old = Check.linked(8, 60, Check.grown(6) + "GLOBAL 0; DROP 2");
         old.run(3 + 18 + 2);
-        rooms("of an old one", old, 0, 8, 0, 1, 0, 1, 0);
+        Check.rooms("of an old one", old, 0, 8, 0, 1, 0, 1, 0);
     }
 
     private static void valuesTakenAreHeld() {
@@ -267,7 +253,7 @@ public final class RoomTest {
         Check.same("and its parent", 1, m.object(1, 0));
         ProtoMachine set = Check.linked(8, 60, OBJECT + "DUP; PUSH 1; SET 1; DUP; PUSH 1; SET 2; NIL; NEW; SET 3");
         Check.same("value and object of SET", 1, set.run(100));
-        rooms("both are held", set, 0, 9, 0, 2, 0, 1, 0);
+        Check.rooms("both are held", set, 0, 9, 0, 2, 0, 1, 0);
     }
 
     private static void serialsGoOn() {
