@@ -359,8 +359,9 @@ final class CodeEdges {
         Check.ends(OBJECT + "SEND 1 0", 2, 2, 1);
         Check.of("Terms", "any other value comes, if b is 0.");
         String[] values = {"NIL", "PUSH 4", "NIL; NEW"};
+        int[] numbers = {0, 4, 2};
         for (int kind = 0; kind <= 2; kind++) {
-            Check.prints("PUSH 50;" + OBJECT + "DUP; " + values[kind] + "; SET 1; SEND 1 0; PRINT", kind, new int[] {0, 4, 2}[kind]);
+            Check.prints(OBJECT + "DUP; " + values[kind] + "; SET 1; SEND 1 0; PRINT", kind, numbers[kind]);
             Check.same("values with kind " + kind, 3,
                 Check.ran("PUSH 8; PUSH 9;" + OBJECT + "DUP; " + values[kind] + "; SET 1; SEND 1 0").many(11));
             Check.same("the end with a value sent", 7,

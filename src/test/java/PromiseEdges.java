@@ -585,7 +585,8 @@ final class PromiseEdges {
 
     private static void manyValuesFramesWords() {
         Check.of("Promise 11", "11 values on the pile, 12 frames, 13 words.");
-        ProtoMachine m = Check.linked(20, 60, OBJECT + "DUP; METHOD 1; SET 1; SEND 1 0; HALT; LABEL 1; ENTER 0 0; NIL; RETURN");
+        ProtoMachine m = Check.linked(20, 60, OBJECT
+            + "DUP; METHOD 1; SET 1; SEND 1 0; HALT; LABEL 1; ENTER 0 0; NIL; RETURN");
         int[] values = {0, 1, 1, 2, 3, 1, 0, 1, 1, 1};
         int[] frames = {1, 1, 1, 1, 1, 1, 2, 2, 1, 1};
         for (int i = 0; i < values.length; i++) {
@@ -642,7 +643,8 @@ final class PromiseEdges {
         ProtoMachine full = Check.ran(Deep.pile(1000));
         value("999", 1, 5, full.pile(999, 0), full.pile(999, 1));
         value("998", 1, 5, full.pile(998, 0), full.pile(998, 1));
-        ProtoMachine called = Check.ran("PUSH 8; PUSH 9;" + OBJECT + "DUP; METHOD 1; SET 1; SEND 1 0; LABEL 1; ENTER 0 0; HALT");
+        ProtoMachine called = Check.ran("PUSH 8; PUSH 9;" + OBJECT
+            + "DUP; METHOD 1; SET 1; SEND 1 0; LABEL 1; ENTER 0 0; HALT");
         value("what lies below the frame", 1, 8, called.pile(1, 0), called.pile(1, 1));
     }
 
@@ -664,7 +666,8 @@ final class PromiseEdges {
         Check.same("not linked", BAD, m.pile(0, 0));
     }
 
-    private static final String CALL = OBJECT + "DUP; METHOD 1; SET 1; PUSH 3; PUSH -4; SEND 1 2; HALT; LABEL 1; ENTER 2 1; HALT";
+    private static final String CALL = OBJECT
+        + "DUP; METHOD 1; SET 1; PUSH 3; PUSH -4; SEND 1 2; HALT; LABEL 1; ENTER 2 1; HALT";
 
     private static void localTells() {
         Check.of("Promise 13", "Likewise of a local of the uppermost frame; 16 is its self.");
@@ -792,7 +795,8 @@ final class PromiseEdges {
     private static void slotTells() {
         Check.of("Promise 15", "Of slot k (from 0, in order) of an object that is not FREED: its name (what = 0),"
             + " kind (1), int, SERIAL or place (2; 0 of NIL).");
-        ProtoMachine m = Check.ran(OBJECT + "DUP; PUSH -4; SET 63; DUP; NIL; SET 0; DUP; DUP; SET 7; DUP; METHOD 1; SET 8; LABEL 1");
+        ProtoMachine m = Check.ran(OBJECT
+            + "DUP; PUSH -4; SET 63; DUP; NIL; SET 0; DUP; DUP; SET 7; DUP; METHOD 1; SET 8; LABEL 1");
         int[][] due = {{63, 1, -4}, {0, 0, 0}, {7, 2, 1}, {8, 3, 15}};
         for (int k = 0; k < due.length; k++) {
             for (int what = 0; what <= 2; what++) {

@@ -95,7 +95,8 @@ final class RoomEdges {
         Check.same("held in a call", 16, Check.ran(call).collectMinor());
         Check.same("held when it is over", 6, Check.ran(call + "NIL; RETURN").collectMinor());
         Check.same("freed when it is over", 10, Check.ran(call + "NIL; RETURN").collectMajor());
-        Check.same("a local of the first of 200 frames", 0, Check.ran(OBJECT + "STORE 3;" + Deep.frames(200, "")).collectMajor());
+        Check.same("a local of the first of 200 frames", 0,
+            Check.ran(OBJECT + "STORE 3;" + Deep.frames(200, "")).collectMajor());
         Check.same("a value below 200 frames", 0, Check.ran(OBJECT + Deep.frames(200, "")).collectMajor());
         Check.same("the uppermost and the lowest of 1000", 0,
             Check.ran(OBJECT + Deep.pile(998) + OBJECT).collectMajor());
@@ -232,7 +233,8 @@ final class RoomEdges {
 
     private static void slotThatGoes() {
         Check.of("Terms", "A slot that goes gives its 1 back at once.");
-        ProtoMachine young = Check.linked(8, 60, Check.grown(5) + "GLOBAL 0; DROP 2; GLOBAL 0; NIL; SET 9; GLOBAL 0; NIL; SET 10");
+        ProtoMachine young = Check.linked(8, 60, Check.grown(5)
+            + "GLOBAL 0; DROP 2; GLOBAL 0; NIL; SET 9; GLOBAL 0; NIL; SET 10");
         young.run(18);
         Check.rooms("full", young, 8, 0, 1, 0, 0, 0, 0);
         young.run(2);
@@ -241,7 +243,8 @@ final class RoomEdges {
         Check.rooms("and taken", young, 8, 0, 1, 0, 0, 0, 0);
         young.run(3);
         Check.rooms("another needs a MINOR", young, 0, 9, 0, 1, 0, 1, 0);
-        ProtoMachine old = Check.linked(8, 16, Check.grown(13) + "GLOBAL 0; DROP 2; GLOBAL 0; NIL; SET 20; GLOBAL 0; NIL; SET 21");
+        ProtoMachine old = Check.linked(8, 16, Check.grown(13)
+            + "GLOBAL 0; DROP 2; GLOBAL 0; NIL; SET 20; GLOBAL 0; NIL; SET 21");
         old.run(42);
         Check.rooms("full of old", old, 0, 16, 0, 1, 0, 1, 0);
         old.run(2);
@@ -273,7 +276,8 @@ final class RoomEdges {
         Check.same("over 60 parents", 180, far.collectMinor());
         ProtoMachine slots = Check.ran("LABEL 1;" + Check.repeat("NIL; NEW; DUP; GLOBAL 0; SET 3; KEEP 0", 40) + "NIL");
         Check.same("over 40 slots", 160, slots.collectMinor());
-        ProtoMachine cycle = Check.ran(Check.grown(0) + "GLOBAL 0; NEW; KEEP 1; GLOBAL 0; GLOBAL 1; SET 1; NIL; KEEP 0; NIL; KEEP 1");
+        ProtoMachine cycle = Check.ran(Check.grown(0)
+            + "GLOBAL 0; NEW; KEEP 1; GLOBAL 0; GLOBAL 1; SET 1; NIL; KEEP 0; NIL; KEEP 1");
         Check.same("a cycle that is young and lost", 0, cycle.collectMinor());
         Check.same("is freed", 2, cycle.many(4));
         ProtoMachine young = Check.ran(OBJECT + "KEEP 0; GLOBAL 0; NIL; NEW; SET 1; NIL; KEEP 0");
@@ -304,12 +308,14 @@ final class RoomEdges {
         Check.same("11 cells into 10", 11, less.collectMinor());
         Check.rooms("with a MAJOR", less, 0, 11, 0, 1, 2, 2, 1);
         // An old one that is lost holds 12 young cells: after the MAJOR they are held no more.
-        ProtoMachine anew = Check.linked(30, 16, Check.grown(1) + "GLOBAL 0;" + Check.grown(9) + "GLOBAL 0; SET 0; NIL; KEEP 0; NIL");
+        ProtoMachine anew = Check.linked(30, 16, Check.grown(1) + "GLOBAL 0;" + Check.grown(9)
+            + "GLOBAL 0; SET 0; NIL; KEEP 0; NIL");
         anew.run(7);
         Check.same("an old one", 4, anew.collectMinor());
         anew.run(100);
         Check.same("its young one fits", 12, anew.collectMinor());
-        ProtoMachine gone = Check.linked(30, 16, Check.grown(1) + "GLOBAL 0;" + Check.grown(10) + "GLOBAL 0; SET 0; NIL; KEEP 0; NIL");
+        ProtoMachine gone = Check.linked(30, 16, Check.grown(1) + "GLOBAL 0;" + Check.grown(10)
+            + "GLOBAL 0; SET 0; NIL; KEEP 0; NIL");
         gone.run(7);
         gone.collectMinor();
         gone.run(100);
@@ -341,7 +347,8 @@ final class RoomEdges {
         ProtoMachine make = Check.linked(8, 16, Check.repeat(OBJECT, 7));
         Check.same("NEW", 8, make.run(100));
         Check.rooms("of NEW", make, 6, 12, 2, 4, 0, 2, 1);
-        ProtoMachine slot = Check.linked(8, 16, Check.repeat(OBJECT, 6) + "DUP; NIL; SET 1; DUP; NIL; SET 2; DUP; NIL; SET 3");
+        ProtoMachine slot = Check.linked(8, 16, Check.repeat(OBJECT, 6)
+            + "DUP; NIL; SET 1; DUP; NIL; SET 2; DUP; NIL; SET 3");
         Check.same("SET", 8, slot.run(100));
         Check.rooms("of SET", slot, 8, 12, 2, 4, 0, 2, 1);
         Check.same("slots of it", 2, slot.object(6, 2));
@@ -376,7 +383,8 @@ final class RoomEdges {
         ProtoMachine young = Check.ran(OBJECT + OBJECT + "POP");
         Check.same("a lost young one", 3, young.collectMajor());
         Check.same("an old one that is lost holds none", 7, lostHolder().collectMajor());
-        ProtoMachine cycle = Check.ran(Check.grown(0) + "GLOBAL 0; NEW; KEEP 1; GLOBAL 0; GLOBAL 1; SET 1; NIL; KEEP 0; NIL; KEEP 1");
+        ProtoMachine cycle = Check.ran(Check.grown(0)
+            + "GLOBAL 0; NEW; KEEP 1; GLOBAL 0; GLOBAL 1; SET 1; NIL; KEEP 0; NIL; KEEP 1");
         Check.same("a lost cycle", 7, cycle.collectMajor());
         ProtoMachine half = Check.ran(Check.grown(0) + "GLOBAL 0; NEW; KEEP 1; GLOBAL 0; GLOBAL 1; SET 1; NIL; KEEP 0");
         Check.same("a cycle that is held at one end", 0, half.collectMajor());

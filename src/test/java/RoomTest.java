@@ -42,7 +42,8 @@ public final class RoomTest {
         old.run(4);
         Check.same("two become old", 6, old.collectMinor());
         Check.same("nothing to free", 0, old.collectMajor());
-        ProtoMachine cycle = Check.linked(60, 200, OBJECT + "DUP; NEW; SWAP; DUP; PUSH 1; SET 2; POP; DUP; DUP; SET 1; POP; HALT");
+        ProtoMachine cycle = Check.linked(60, 200, OBJECT
+            + "DUP; NEW; SWAP; DUP; PUSH 1; SET 2; POP; DUP; DUP; SET 1; POP; HALT");
         cycle.run(8);
         Check.same("they become old", 7, cycle.collectMinor());
         cycle.run(20);
@@ -183,7 +184,8 @@ public final class RoomTest {
     }
 
     private static void slotOfAYoungOne() {
-        ProtoMachine m = Check.linked(8, 60, Check.grown(5) + OBJECT + "POP; GLOBAL 0; PUSH 1; SET 9; GLOBAL 0; PUSH 2; SET 9");
+        ProtoMachine m = Check.linked(8, 60, Check.grown(5) + OBJECT
+            + "POP; GLOBAL 0; PUSH 1; SET 9; GLOBAL 0; PUSH 2; SET 9");
         m.run(3 + 15);
         Check.rooms("full", m, 8, 0, 1, 0, 0, 0, 0);
         m.run(2);

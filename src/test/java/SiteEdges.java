@@ -10,6 +10,7 @@ final class SiteEdges {
         placesOfTheirOwn();
         endsWell();
         remembersShapes();
+        remembersTheVeryParent();
         remembersKinds();
         firstStepIsNone();
         onlyTheStepBefore();
@@ -28,7 +29,8 @@ final class SiteEdges {
             + "GLOBAL 1; HAS 1; GLOBAL 1; PARENT; GLOBAL 1; PUSH 1; SET 1; GLOBAL 1; DROP 1; GLOBAL 1; CLONE");
         Check.same("end", 1, others.step());
         Check.same("others are no sites", 0, others.many(8));
-        ProtoMachine loop = Check.linked(60, 200, Rounds.FAMILY + "LABEL 1; GLOBAL 1; GET 1; POP; GLOBAL 1; SEND 1 0; POP; JUMP 1");
+        ProtoMachine loop = Check.linked(60, 200, Rounds.FAMILY
+            + "LABEL 1; GLOBAL 1; GET 1; POP; GLOBAL 1; SEND 1 0; POP; JUMP 1");
         loop.run(loop.many(13) + 6);
         Check.same("each place twice", 4, loop.many(8));
         Check.same("a hit each", 2, loop.many(7));
@@ -76,6 +78,24 @@ final class SiteEdges {
         Rounds.hits("40 of 39 names", 0, "NIL; NEW;" + names(0, 39), "NIL; NEW;" + full);
     }
 
+    /** Each round has a new parent, a copy that never changed, and its child at the site, twice; then both are freed. */
+    private static void remembersTheVeryParent() {
+        Check.of("Terms", "an object's SHAPE,");
+        ProtoMachine m = Check.linked(60, 200, "NIL; NEW; DUP; PUSH 5; SET 1; KEEP 2;"
+            + "JUMP 1; LABEL 1; GLOBAL 2; CLONE; NEW; KEEP 0; PUSH 2; KEEP 1;"
+            + "LABEL 2; GLOBAL 0; GET 1; POP; GLOBAL 1; PUSH 1; SUB; DUP; KEEP 1; UNLESS 3; JUMP 2;"
+            + "LABEL 3; NIL; KEEP 0; JUMP 1");
+        m.run(6);
+        for (int round = 1; round <= 4; round++) {
+            m.run(1 + 6 + 1 + 9 + 1 + 9);
+            Check.same("the parent of round " + round, 2 * round, m.object(2 * round + 1, 3));
+            m.run(2);
+            Check.same("freed in round " + round, 7, m.collectMajor());
+            Check.same("steps of the site in round " + round, 2 * round, m.many(8));
+            Check.same("only the second is a hit, in round " + round, round, m.many(7));
+        }
+    }
+
     private static String names(int from, int to) {
         StringBuilder code = new StringBuilder();
         for (int name = from; name < to; name++) {
@@ -92,7 +112,8 @@ final class SiteEdges {
             String proto = "GLOBAL 0; PROTO " + kind + "; ";
             Rounds.hits("kind " + kind, 1, proto + values[kind], values[kind]);
             Rounds.hits("its PROTO once more, kind " + kind, 1, proto + values[kind], proto + values[kind]);
-            Rounds.hits("another PROTO, kind " + kind, 0, proto + values[kind], "GLOBAL 3; PROTO " + kind + "; " + values[kind]);
+            Rounds.hits("another PROTO, kind " + kind, 0, proto + values[kind], "GLOBAL 3; PROTO " + kind + "; "
+                + values[kind]);
             Rounds.hits("another PROTO and back, kind " + kind, 1, proto + values[kind],
                 "GLOBAL 3; PROTO " + kind + "; " + proto + values[kind]);
             Rounds.hits("a child of its PROTO, kind " + kind, 0, proto + values[kind], "GLOBAL 0; NEW");

@@ -161,7 +161,8 @@ final class StepEdges {
             Check.ends(Check.repeat("NIL", b) + "SEND 0 " + b, 5, b, b);
             Check.ends(Check.repeat("NIL", b + 1) + "SEND 0 " + b, 2, b + 1, b + 1);
         }
-        for (String word : new String[] {"HALT", "PUSH 1", "NIL", "JUMP 1", "LOCAL 0", "GLOBAL 0", "METHOD 1", "SELF", "ENTER 1 1"}) {
+        for (String word : new String[] {"HALT", "PUSH 1", "NIL", "JUMP 1", "LOCAL 0", "GLOBAL 0", "METHOD 1", "SELF",
+            "ENTER 1 1"}) {
             Check.same("none is wanted by " + word, 1, Check.ran("NIL; POP; " + word + "; LABEL 1").step());
         }
     }
@@ -257,7 +258,8 @@ final class StepEdges {
             Check.same(sent + " to no ENTER", 7, Check.ran(send + "NIL; HALT").step());
             Check.same(sent + " to behind the last word", 7, Check.ran(send).step());
             for (String value : new String[] {"NIL", "PUSH 3", "NIL; NEW"}) {
-                ProtoMachine m = Check.ran(OBJECT + "DUP; " + value + "; SET 1; " + Check.repeat("NIL", sent) + "SEND 1 " + sent);
+                ProtoMachine m = Check.ran(OBJECT + "DUP; " + value + "; SET 1; " + Check.repeat("NIL", sent)
+                    + "SEND 1 " + sent);
                 Check.same(sent + " to " + value, sent == 0 ? 1 : 7, m.step());
                 Check.same("values then", sent + 1, m.many(11));
             }
@@ -303,7 +305,8 @@ final class StepEdges {
             Check.same("values", slots < 40 ? 0 : 2, m.many(11));
         }
         Check.same("a value for one of the 40", 1, Check.ran(Check.grown(40) + "GLOBAL 0; NIL; SET 39").step());
-        Check.same("one goes, another comes", 1, Check.ran(Check.grown(40) + "GLOBAL 0; DROP 0; GLOBAL 0; NIL; SET 63").step());
+        Check.same("one goes, another comes", 1, Check.ran(Check.grown(40)
+            + "GLOBAL 0; DROP 0; GLOBAL 0; NIL; SET 63").step());
         Check.same("of a child", 1, Check.ran(Check.grown(40) + "GLOBAL 0; NEW; NIL; SET 63").step());
         Check.same("of a copy", 10, Check.ran(Check.grown(40) + "GLOBAL 0; CLONE; NIL; SET 63").step());
     }
@@ -311,7 +314,8 @@ final class StepEdges {
     private static final String ORDER = "Of several reasons for one step: 5 for too few values,"
         + " 3 (from the lowest value of those that go on), 4, 2, 9, 10, 7, 5 for too many, 6, 8.";
     // Two young objects and four old ones, all held, in rooms of 8 and 16: nothing more can be made.
-    private static final String FULL = "LABEL 1;" + Check.repeat(OBJECT, 6) + "KEEP 0; KEEP 1; KEEP 2; KEEP 3; KEEP 4; KEEP 5;";
+    private static final String FULL = "LABEL 1;" + Check.repeat(OBJECT, 6)
+        + "KEEP 0; KEEP 1; KEEP 2; KEEP 3; KEEP 4; KEEP 5;";
 
     private static void inFullRooms(String words, int due) {
         ProtoMachine m = Check.linked(8, 16, FULL + words);
@@ -376,7 +380,8 @@ final class StepEdges {
 
     private static void entersComeBeforeFrames() {
         Check.of("Terms", ORDER);
-        String[] words = {"GLOBAL 14; SEND 61 0", "GLOBAL 14; NIL; SEND 62 1", "GLOBAL 14; PUSH 3; SET 5; GLOBAL 14; NIL; SEND 5 1",
+        String[] words = {"GLOBAL 14; SEND 61 0", "GLOBAL 14; NIL; SEND 62 1",
+            "GLOBAL 14; PUSH 3; SET 5; GLOBAL 14; NIL; SEND 5 1",
             "GLOBAL 14; SEND 62 0"};
         for (int i = 0; i < words.length; i++) {
             ProtoMachine m = Check.linked(20, 60, Deep.frames(200, words[i]));

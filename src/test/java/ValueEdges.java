@@ -129,7 +129,8 @@ final class ValueEdges {
             Check.same("as a slot", is ? name : BAD, m.slot(1, 0, 0));
             Check.same("its value", is ? 9 : BAD, m.pile(0, 1));
         }
-        ProtoMachine m = Check.ran(OBJECT + "KEEP 0; GLOBAL 0; PUSH 1; SET 9; GLOBAL 0; PUSH 2; SET 3; GLOBAL 0; PUSH 3; SET 6;"
+        ProtoMachine m = Check.ran(OBJECT
+            + "KEEP 0; GLOBAL 0; PUSH 1; SET 9; GLOBAL 0; PUSH 2; SET 3; GLOBAL 0; PUSH 3; SET 6;"
             + "GLOBAL 0; PUSH 4; SET 3; GLOBAL 0; DROP 9; GLOBAL 0; PUSH 5; SET 9");
         int[][] due = {{3, 4}, {6, 3}, {9, 5}};
         for (int k = 0; k < 3; k++) {
