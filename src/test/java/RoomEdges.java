@@ -9,6 +9,7 @@ final class RoomEdges {
     static void all() {
         youngOldFreed();
         roomsOfSizes();
+        roomsOfTheSmallest();
         roots();
         valuesTakenAreRoots();
         makingInTheNursery();
@@ -71,6 +72,37 @@ final class RoomEdges {
         Check.rooms("slots take room, too", slots, 11, 0, 2, 0, 0, 0, 0);
         slots.run(3);
         Check.rooms("the last cell", slots, 12, 0, 2, 0, 0, 0, 0);
+    }
+
+    /** Both rooms hold as many objects as they can, for none is smaller than 3 cells. */
+    private static void roomsOfTheSmallest() {
+        Check.of("Terms", "THE NURSERY has room for SIZES of young ones (the first number of the constructor),"
+            + " THE GREAT ROOM for those of old ones (the second number).");
+        for (int[] room : new int[][] {{9, 18}, {8, 16}, {11, 20}, {200, 4000}}) {
+            int young = room[0] / 3;
+            int old = room[1] / 3;
+            String of = "in " + room[0] + ", " + room[1];
+            ProtoMachine m = Check.linked(room[0], room[1], Deep.parents(young + old + 1, "NIL"));
+            m.run(Deep.stepsOfParents(old));
+            m.collectMinor();
+            Check.same("to the last " + of, 0, m.run(10 * young));
+            Check.same("old ones " + of, old, m.many(3));
+            Check.same("young ones " + of, young, m.many(2));
+            Check.same("the last one " + of, 0, m.object(young + old, 0));
+            Check.same("MAJOR " + of, 0, m.collectMajor());
+            Check.same("MINOR " + of, NO_ROOM, m.collectMinor());
+            Check.same("one more " + of, 8, m.run(10));
+            Check.same("young ones still " + of, young, m.many(2));
+            ProtoMachine lost = Check.linked(room[0], room[1], Deep.parents(young + old, "NIL; KEEP 0; NIL"));
+            lost.run(Deep.stepsOfParents(old));
+            lost.collectMinor();
+            lost.run(10 * young + 2);
+            Check.same("objects " + of, young + old, lost.many(2) + lost.many(3));
+            Check.same("MINOR of lost ones " + of, 0, lost.collectMinor());
+            Check.same("young ones that are left " + of, 0, lost.many(2));
+            Check.same("MAJOR of lost ones " + of, 3 * old, lost.collectMajor());
+            Check.same("freed " + of, young + old, lost.many(4));
+        }
     }
 
     private static void roots() {
