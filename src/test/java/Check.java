@@ -6,7 +6,7 @@ final class Check {
     static final int RUNNING = 0;
     static final int HALTED = 1;
 
-    private static final List<String> OPERATIONS = List.of(
+    static final List<String> OPERATIONS = List.of(
         "HALT", "PUSH", "NIL", "POP", "DUP", "SWAP", "ADD", "SUB", "MUL", "DIV", "REM", "LESS", "EQUAL",
         "JUMP", "UNLESS", "LOCAL", "STORE", "GLOBAL", "KEEP", "NEW", "CLONE", "GET", "SET", "DROP", "HAS",
         "PARENT", "ADOPT", "PROTO", "METHOD", "SEND", "SELF", "RETURN", "PRINT", "LABEL", "ENTER");
@@ -31,6 +31,11 @@ final class Check {
     static void of(String section, String words) {
         sentence = section + " \"" + words + "\": ";
         holds("it is in the document", Document.quote(section, words));
+    }
+
+    /** Says that the answers from here on belong to no sentence. */
+    static void ofNone() {
+        sentence = "";
     }
 
     static void holds(String what, boolean is) {

@@ -30,11 +30,11 @@ final class Document {
 
     /** Without marks for blocks, without the faces of the methods, and with single spaces. */
     private static String plain(String text) {
-        return text.replaceAll("```(text)?", " ").replaceAll("`[^`]*`", " ").replace("====", " ")
+        return text.replaceAll("```(text|java)?", " ").replaceAll("`[^`]*`", " ").replace("====", " ")
             .replaceAll("\\s+", " ").trim();
     }
 
-    private static String text(String section) {
+    static String text(String section) {
         return TEXTS.getOrDefault(section, "");
     }
 

@@ -3,6 +3,7 @@ public final class EdgesTest {
     private static final int PROMISES = 17;
 
     public static void main(String[] args) {
+        OpeningEdges.all();
         ValueEdges.all();
         CodeEdges.all();
         StepEdges.all();
@@ -14,6 +15,8 @@ public final class EdgesTest {
     }
 
     private static void everySentenceHasATest() {
+        Check.ofNone();
+        without("What it is");
         without("Terms");
         for (int promise = 1; promise <= PROMISES; promise++) {
             without("Promise " + promise);

@@ -5,12 +5,15 @@ import java.lang.reflect.Method;
 import java.lang.reflect.Modifier;
 import java.nio.file.Files;
 import java.nio.file.Path;
+import java.util.Arrays;
 import java.util.Set;
 import java.util.TreeSet;
+import java.util.regex.Matcher;
 import java.util.regex.Pattern;
 
 /** The public face, and the rules of LANGUAGE.md that can be seen in the text. */
 public final class FaceTest {
+    private static final String PLACE = "The public face";
     private static final Set<String> METHODS = Set.of(
         "asm(int,int,int)", "wipe()", "link()", "fault()", "step()", "run(int)", "restart()",
         "collectMinor()", "collectMajor()", "many(int)", "pile(int,int)", "local(int,int)",
@@ -19,6 +22,7 @@ public final class FaceTest {
     public static void main(String[] args) throws IOException {
         members();
         constants();
+        documentsFace();
         text();
         Check.end("FaceTest");
     }
@@ -73,7 +77,62 @@ public final class FaceTest {
         Check.holds("the fields are " + open, open.equals(Set.of("BAD", "FULL", "NO_ROOM")));
     }
 
+    /** Holds each line of the document's face against the class as it was compiled. */
+    private static void documentsFace() {
+        Check.of(PLACE, "public final class ProtoMachine {");
+        Check.holds("public and final",
+            Modifier.isPublic(ProtoMachine.class.getModifiers()) && Modifier.isFinal(ProtoMachine.class.getModifiers()));
+        documentsConstants();
+        documentsCalls("public ()(ProtoMachine)\\((.*?)\\);");
+        documentsCalls("public (int) (\\w+)\\((.*?)\\);");
+        String left = Document.left(PLACE);
+        Check.holds("nothing is left of it but: " + left, left.isEmpty());
+    }
+
+    private static void documentsConstants() {
+        Matcher line = Pattern.compile("public static final int (\\w+) = (-\\d+);").matcher(Document.text(PLACE));
+        while (line.find()) {
+            Check.of(PLACE, line.group());
+            Check.same("its value", Integer.parseInt(line.group(2)), constant(line.group(1)));
+        }
+    }
+
+    /** Answers 0 for a constant that is not there: none of the document's is 0. */
+    private static int constant(String name) {
+        try {
+            Field field = ProtoMachine.class.getField(name);
+            int kinds = Modifier.PUBLIC | Modifier.STATIC | Modifier.FINAL;
+            return field.getModifiers() == kinds && field.getType() == int.class ? field.getInt(null) : 0;
+        } catch (ReflectiveOperationException none) {
+            return 0;
+        }
+    }
+
+    private static void documentsCalls(String form) {
+        Matcher line = Pattern.compile(form).matcher(Document.text(PLACE));
+        while (line.find()) {
+            Check.of(PLACE, line.group());
+            int given = line.group(3).isEmpty() ? 0 : line.group(3).split(",").length;
+            Class<?>[] types = new Class<?>[given];
+            Arrays.fill(types, int.class);
+            Check.holds("it is there", isThere(line.group(1), line.group(2), types));
+        }
+    }
+
+    private static boolean isThere(String answers, String name, Class<?>[] types) {
+        try {
+            if (answers.isEmpty()) {
+                return Modifier.isPublic(ProtoMachine.class.getConstructor(types).getModifiers());
+            }
+            Method method = ProtoMachine.class.getMethod(name, types);
+            return method.getReturnType() == int.class && !Modifier.isStatic(method.getModifiers());
+        } catch (NoSuchMethodException none) {
+            return false;
+        }
+    }
+
     private static void text() throws IOException {
+        Check.ofNone();
         String text = Files.readString(Path.of("src/main/java/ProtoMachine.java"));
         String code = text.replaceAll("(?s)/\\*.*?\\*/", " ").replaceAll("//[^\n]*", " ");
         for (String word : new String[] {"throw", "try", "catch", "synchronized", "assert", "package", "throws"}) {
